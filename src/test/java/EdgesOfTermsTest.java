@@ -39,8 +39,7 @@ public final class EdgesOfTermsTest extends Edges {
         Edge edge = new Edge("what it is", "An object is used for at most 512 calls after it has been made");
         Call[] idle = {put(6, 0, 1), get(0, 0), begin(0, 0), read(0), got(0, 0), rounds(0), deliver(0, 1, 0), serve(0, 0),
             flight(0, 1), sent(0, 1, 0), pending(0, 0), lacks(0, 0, 0), latest(0, 0), visible(0, 0), clock(0, 0),
-                    context(0, 0),
-            nearest(0), about(0, 0), dependency(0, 0)};
+            context(0, 0), nearest(0), about(0, 0), dependency(0, 0)};
         for (Call call : idle) {
             edge.answers(NEW.then(511, call), put(0, 0, 1), 0);
         }
